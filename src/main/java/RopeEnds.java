@@ -1029,7 +1029,8 @@ public final class RopeEnds {
             for (int i = 0; i < hold.size; i++) {
                 endsOf[1 << i] = starts & 1 << i;
             }
-            for (int set = 1; set <= hold.everyone(); set++) {
+            int all = hold.everyone();
+            for (int set = 1; set <= all; set++) {
                 for (int next = 0; next < hold.size; next++) {
                     boolean isNew = (set >> next & 1) == 0;
                     if (isNew && (bendsTo[next] & endsOf[set]) != 0) {
@@ -1042,7 +1043,8 @@ public final class RopeEnds {
         /** The greatest length of the lines found that end at one of some ropes, or NONE. */
         int longestTo(Hold hold, int ends) {
             int longest = NONE;
-            for (int set = 1; set <= hold.everyone(); set++) {
+            int all = hold.everyone();
+            for (int set = 1; set <= all; set++) {
                 if ((endsOf[set] & ends) != 0) {
                     longest = Math.max(longest, hold.lengthOfLine(set));
                 }
@@ -1076,7 +1078,8 @@ public final class RopeEnds {
         private static final int WORD = 1;
         private static final int NUMBER = 2;
         private static final int SIGN = 3;
-        private static final int NO_TOKEN = 4;
+        private static final int BLANK = 4;
+        private static final int NO_TOKEN = 5;
         /** What a number too great for any place counts as. */
         private static final int TOO_GREAT = 1000;
 
@@ -1203,13 +1206,13 @@ public final class RopeEnds {
             }
         }
 
-        /** Whether the token is this word. */
+        /** Whether the token is this word; a word stands on the tape whole, so all its places are there. */
         private boolean isWord(String word) {
             if (sort != WORD || after - start != word.length()) {
                 return false;
             }
             for (int i = 0; i < word.length(); i++) {
-                if (byteAt(start + i) != word.charAt(i)) {
+                if (bytes[start + i] != word.charAt(i)) {
                     return false;
                 }
             }
@@ -1221,48 +1224,34 @@ public final class RopeEnds {
         /** Goes on to the next token; at the end of the tape it stands behind the last byte. */
         private void step() {
             start = after;
-            while (start < size && byteAt(start) == ' ') {
+            while (start < size && sortOf(bytes[start]) == BLANK) {
                 start++;
             }
-            after = start;
-            if (start >= size) {
-                sort = ENDED;
-            } else if (isLetter(byteAt(start))) {
-                stepOverWord();
-            } else if (isDigit(byteAt(start))) {
-                stepOverNumber();
-            } else {
-                sort = byteAt(start) == ';' ? SIGN : NO_TOKEN;
-                after = start + 1;
-            }
-        }
-
-        private void stepOverWord() {
-            sort = WORD;
-            while (after < size && isLetter(byteAt(after))) {
-                after++;
-            }
-        }
-
-        private void stepOverNumber() {
-            sort = NUMBER;
+            sort = start < size ? sortOf(bytes[start]) : ENDED;
+            boolean isLong = sort == WORD || sort == NUMBER;
+            int bound = isLong ? size : Math.min(size, start + 1);
             number = 0;
-            while (after < size && isDigit(byteAt(after))) {
-                number = Math.min(TOO_GREAT, 10 * number + byteAt(after) - '0');
+            after = start;
+            while (after < bound && sortOf(bytes[after]) == sort) {
+                if (sort == NUMBER) {
+                    number = Math.min(TOO_GREAT, 10 * number + bytes[after] - '0');
+                }
                 after++;
             }
         }
 
-        private int byteAt(int place) {
-            return place >= 0 && place < size && place < MOST_BYTES ? bytes[place] & 255 : 0;
-        }
-
-        private static boolean isLetter(int b) {
-            return b >= 'a' && b <= 'z';
-        }
-
-        private static boolean isDigit(int b) {
-            return b >= '0' && b <= '9';
+        /** The sort of token that a byte belongs to. */
+        private static int sortOf(byte b) {
+            if (b >= 'a' && b <= 'z') {
+                return WORD;
+            }
+            if (b >= '0' && b <= '9') {
+                return NUMBER;
+            }
+            if (b == ';') {
+                return SIGN;
+            }
+            return b == ' ' ? BLANK : NO_TOKEN;
         }
     }
 

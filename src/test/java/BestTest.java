@@ -11,6 +11,7 @@ public final class BestTest {
         known();
         kind();
         kindCounts();
+        kindOfALaterOne();
         fibre();
         hour();
         wrongRopes();
@@ -123,6 +124,9 @@ public final class BestTest {
         Due.is("by 1 then", x.rounds(0, 3), 2);
         x.turn(2, Due.WARP);
         Due.is("one of the two meets", x.rounds(0, 2), 1);
+        RopeEnds y = Due.ropes(0, 0, 0);
+        Due.store(y, "know 0 2; know 1 2");
+        Due.is("next ones", y.rounds(1, 0), 1);
     }
 
     private static void known() {
@@ -178,6 +182,21 @@ public final class BestTest {
         Due.is("a rope and a cable meet but their own", y.kind(0), Due.WARP);
         y.set(1, Due.FIBRE, 3);
         Due.is("twine meets all", y.kind(0), Due.TWINE);
+    }
+
+    private static void kindOfALaterOne() {
+        RopeEnds x = Due.ropes(Due.ROPE, Due.BELL);
+        Due.until(x, 8);
+        Due.is("0 calls as well", x.kind(1), Due.ROPE);
+        x.set(0, Due.FIBRE, 2);
+        Due.is("0 meets but 2", x.kind(1), 0);
+        x.set(1, Due.FIBRE, 2);
+        x.set(1, Due.PRIDE, 9);
+        Due.is("twine asks nothing", x.kind(1), Due.TWINE);
+        Due.is("a bell and a rope never meet", x.fibre(1), 0);
+        x.turn(1, Due.ROPE);
+        Due.is("as a rope with 2", x.fibre(1), 2);
+        Due.is("0 opens at 8", x.hour(1), 8);
     }
 
     private static void fibre() {

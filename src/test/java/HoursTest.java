@@ -3,6 +3,7 @@ public final class HoursTest {
     public static void main(String[] args) {
         gale();
         hours();
+        theLastHour();
         tarComes();
         aGaleAtNight();
         whoTakesHold();
@@ -40,6 +41,21 @@ public final class HoursTest {
         Due.is("hours(60)", x.hours(60), 1);
         Due.is("hour", x.now(0), 61);
         Due.is("hour of the day", x.now(1), 13);
+    }
+
+    /** The document leaves free what is answered behind 512 calls, which is too soon for this; the edge is kept all the same. */
+    private static void theLastHour() {
+        RopeEnds x = new RopeEnds();
+        for (int i = 0; i < 1666; i++) {
+            x.hours(60);
+        }
+        Due.is("hour", x.now(0), 99960);
+        Due.is("above 99999", x.hours(40), Due.STATE);
+        Due.is("beyond is asked first", x.hours(61), Due.BEYOND);
+        Due.is("hour still", x.now(0), 99960);
+        Due.is("to 99999", x.hours(39), 0);
+        Due.is("no more", x.hours(1), Due.STATE);
+        Due.is("the last hour", x.now(0), 99999);
     }
 
     private static void tarComes() {
@@ -178,7 +194,9 @@ public final class HoursTest {
         Due.is("three days' tar", x.when(0, 1), 56);
         x.set(1, Due.PRIDE, 5);
         Due.is("five days' tar", x.when(0, 1), Due.NONE);
-        x.hours(4);
+        x.hours(3);
+        Due.is("101 hours on are too many", x.when(0, 1), Due.NONE);
+        x.hours(1);
         Due.is("100 hours on, and 4 tar to come", x.when(0, 1), 100);
         x.hours(1);
         x.set(0, Due.TAR, 0);

@@ -27,6 +27,9 @@ public final class ImagesTest {
 
     private static void changeAll(RopeEnds x) {
         x.rope(Due.BELL);
+        x.set(4, Due.FIBRE, 2);
+        x.set(4, Due.PRIDE, 2);
+        Due.store(x, "know 3 4");
         x.turn(1, Due.HAWSER);
         x.set(0, Due.LENGTH, 5);
         x.set(1, Due.FIBRE, 0);
@@ -111,6 +114,10 @@ public final class ImagesTest {
         for (int what = 0; what <= 3; what++) {
             Due.is("count " + what, x.count(what), due[what]);
         }
+        x.forget(0, 2);
+        x.cut(0, 5);
+        Due.is("0 knows nobody", x.count(3), 6);
+        Due.is("0 has an end", x.count(2), 4);
         Due.is("count(-1)", x.count(-1), Due.BEYOND);
         Due.is("count(4)", x.count(4), Due.BEYOND);
         Due.is("count(MIN)", x.count(Integer.MIN_VALUE), Due.BEYOND);

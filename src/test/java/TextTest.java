@@ -167,6 +167,8 @@ public final class TextTest {
         Due.is("a great letter behind", Due.store(x, "ropE"), -1);
         Due.is("a word behind", Due.store(x, "rope rope"), -6);
         Due.is("another word", Due.store(x, "rope;shackle"), -6);
+        Due.is("another first letter", Due.store(x, "hope"), -1);
+        Due.is("another last letter", Due.store(x, "galt"), -1);
         Due.is("a word with the name's length", Due.store(x, "belt"), -1);
     }
 
