@@ -222,6 +222,11 @@ public final class BestTest {
         Due.is("a twine's, the least of several", x.fibre(0), 1);
         x.forget(0, 2);
         Due.is("of none but one", Due.ropes(Due.ROPE).fibre(0), 0);
+        RopeEnds y = Due.ropes(Due.BELL, Due.TWINE, Due.TWINE, Due.TWINE, Due.TWINE);
+        for (int rope = 1; rope <= 4; rope++) {
+            y.set(rope, Due.FIBRE, rope - 1);
+        }
+        Due.is("each of 0 to 3 shuts out one, and there is no other", y.fibre(0), 0);
     }
 
     private static void hour() {

@@ -7,6 +7,7 @@ public final class HoursTest {
         tarComes();
         aGaleAtNight();
         whoTakesHold();
+        aFullStoreInAGale();
         theMorning();
         now();
         on();
@@ -110,6 +111,24 @@ public final class HoursTest {
         Due.is("the lesser ones first", x.of(1, Due.KNOWS), 4);
         x.gale(0);
         Due.is("without a gale nothing", x.hours(1), 2);
+    }
+
+    private static void aFullStoreInAGale() {
+        RopeEnds x = Due.ropes(0, 0, 0, 0, 0, 0, 0, 0);
+        x.set(7, Due.FIBRE, 1);
+        Due.until(x, 19);
+        x.gale(1);
+        Due.is("ten hours of night", x.hours(11), 10);
+        Due.is("0 knows all", x.of(0, Due.KNOWS), 254);
+        Due.is("best known", x.known(), 0);
+        Due.is("longest by day: 2 1 3 0 5", x.longest(), 242);
+        Due.is("in how many rounds", x.rounds(1, 7), Due.NONE);
+        Due.is("in how many rounds of a like fibre", x.rounds(5, 6), 1);
+        Due.is("the morning parts 0 and 7", x.hours(1), 9);
+        Due.is("0 knows all but 7", x.of(0, Due.KNOWS), 126);
+        Due.is("7 knows nobody", x.of(7, Due.KNOWS), 0);
+        Due.is("length of all", x.now(4), 400);
+        Due.is("tar of all", x.now(6), 56);
     }
 
     private static void theMorning() {

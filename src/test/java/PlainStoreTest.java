@@ -4,6 +4,7 @@ import java.util.ArrayList;
 import java.util.Comparator;
 import java.util.List;
 import java.util.Random;
+import java.util.Set;
 
 /** Long runs of calls, the same for RopeEnds and for PlainStore: each answer is the same, and none throws. */
 public final class PlainStoreTest {
@@ -11,6 +12,8 @@ public final class PlainStoreTest {
     private static final int CALLS = 512;
     private static final int[] EDGES = {Integer.MIN_VALUE, -1000, -2, -1, 0, 1, 7, 8, 9, 31, 32, 33, 40, 41, 60, 61,
         99, 100, 120, 999, 1000, 65536, Integer.MAX_VALUE};
+    /** Calls that take away what others have built up: they come more seldom. */
+    private static final Set<String> EMPTYING = Set.of("undo", "wipe", "forget", "tear");
     private static final String[] PIECES = {"rope", "warp", "cable", "twine", "hawser", "bell", "know", "gale", "calm",
         "long", "fibre", "pride", "tar", ";", ";", ";", " ", " ", "0", "1", "2", "3", "7", "9", "10", "99", "100", "999",
         "1000", "007", "ropes", "x", "-", "\n", "\0", "\u00ff"};
@@ -46,10 +49,20 @@ public final class PlainStoreTest {
         PlainStore plain = new PlainStore();
         List<String> told = new ArrayList<>();
         boolean wild = run % 5 == 0;
+        for (int i = run % 9; i > 0; i--) {
+            int kind = dice.nextInt(6);
+            alike("rope", new Object[] {kind}, real.rope(kind), plain.rope(kind), told);
+        }
         for (int i = 0; i < CALLS; i++) {
             Method m = methods.get(dice.nextInt(methods.size()));
+            if (EMPTYING.contains(m.getName()) && dice.nextInt(5) > 0) {
+                continue;
+            }
             if (m.getName().equals("feed") && dice.nextInt(3) > 0) {
                 feedText(real, plain, told);
+                if (dice.nextInt(3) > 0 && !alike("store", new Object[0], real.store(), plain.store(), told)) {
+                    return false;
+                }
                 continue;
             }
             Object[] values = values(m, wild);
