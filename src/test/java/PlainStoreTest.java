@@ -9,7 +9,9 @@ import java.util.Set;
 /** Long runs of calls, the same for RopeEnds and for PlainStore: each answer is the same, and none throws. */
 public final class PlainStoreTest {
     private static final int RUNS = 1500;
+    /** As many as the document says an object is used for. */
     private static final int CALLS = 512;
+    private static final int MOST_BYTES = 120;
     private static final int[] EDGES = {Integer.MIN_VALUE, -1000, -2, -1, 0, 1, 7, 8, 9, 31, 32, 33, 40, 41, 60, 61,
         99, 100, 120, 999, 1000, 65536, Integer.MAX_VALUE};
     /** Calls that take away what others have built up: they come more seldom. */
@@ -22,6 +24,8 @@ public final class PlainStoreTest {
 
     private final Random dice;
     private final List<Method> methods = new ArrayList<>();
+    /** How many calls the objects of this run have had. */
+    private int calls = 0;
 
     private PlainStoreTest(long seed) {
         dice = new Random(seed);
@@ -49,16 +53,17 @@ public final class PlainStoreTest {
         PlainStore plain = new PlainStore();
         List<String> told = new ArrayList<>();
         boolean wild = run % 5 == 0;
+        calls = 0;
         for (int i = run % 9; i > 0; i--) {
             int kind = dice.nextInt(6);
             alike("rope", new Object[] {kind}, real.rope(kind), plain.rope(kind), told);
         }
-        for (int i = 0; i < CALLS; i++) {
+        while (calls < CALLS) {
             Method m = methods.get(dice.nextInt(methods.size()));
             if (EMPTYING.contains(m.getName()) && dice.nextInt(5) > 0) {
                 continue;
             }
-            if (m.getName().equals("feed") && dice.nextInt(3) > 0) {
+            if (m.getName().equals("feed") && dice.nextInt(3) > 0 && CALLS - calls > MOST_BYTES / 4) {
                 feedText(real, plain, told);
                 if (dice.nextInt(3) > 0 && !alike("store", new Object[0], real.store(), plain.store(), told)) {
                     return false;
@@ -74,7 +79,8 @@ public final class PlainStoreTest {
         return true;
     }
 
-    private static boolean alike(String name, Object[] values, Object got, Object due, List<String> told) {
+    private boolean alike(String name, Object[] values, Object got, Object due, List<String> told) {
+        calls++;
         told.add(name + List.of(values) + " = " + got);
         if (got.equals(due)) {
             return true;
@@ -86,9 +92,11 @@ public final class PlainStoreTest {
     private void feedText(RopeEnds real, PlainStore plain, List<String> told) {
         String text = text();
         told.add("text \"" + text + "\"");
-        for (int i = 0; i < text.length(); i++) {
-            real.feed(text.charAt(i), 1);
-            plain.feed(text.charAt(i), 1);
+        for (int i = 0; i < text.length(); i += 4) {
+            int n = Math.min(4, text.length() - i);
+            real.feed(Due.bytes(text, i), n);
+            plain.feed(Due.bytes(text, i), n);
+            calls++;
         }
     }
 
@@ -103,7 +111,7 @@ public final class PlainStoreTest {
                 text.append(ITEMS[dice.nextInt(ITEMS.length)]).append(n > 0 ? "; " : "");
             }
         }
-        return text.toString();
+        return text.substring(0, Math.min(text.length(), MOST_BYTES));
     }
 
     private Object[] values(Method m, boolean wild) {
