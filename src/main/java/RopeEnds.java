@@ -671,22 +671,19 @@ public final class RopeEnds {
         }
 
         boolean meetsFibre(int f) {
+            boolean isNear = f - fibre <= 1 && fibre - f <= 1;
             switch (kind) {
                 case WARP:
-                    return isNear(f);
+                    return isNear;
                 case TWINE:
                     return true;
                 case HAWSER:
-                    return isNear(f) && f != HAWSER_SHUNS;
+                    return isNear && f != HAWSER_SHUNS;
                 case BELL:
                     return f != fibre;
                 default:
                     return f == fibre;
             }
-        }
-
-        private boolean isNear(int f) {
-            return Math.abs(f - fibre) <= 1;
         }
 
         int asks() {
