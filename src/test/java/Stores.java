@@ -18,6 +18,8 @@ final class Stores {
      */
     static RopeEnds busy() {
         RopeEnds x = Due.ropes(Due.ROPE, Due.WARP, Due.CABLE, Due.TWINE, Due.BELL);
+        // A finding ahead of all else, so that a later one has nothing to repeat.
+        x.gale(9);
         x.image();
         Due.store(x, "know 0 1; know 1 2");
         x.set(1, Due.FIBRE, 1);
@@ -31,7 +33,6 @@ final class Stores {
         Due.sheet(x, 1, 16, 1000, 2);
         Due.sheet(x, 2, 64, BIG);
         Due.feed(x, "warp long 7;calm");
-        x.gale(9);
         return x;
     }
 

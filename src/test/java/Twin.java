@@ -42,11 +42,12 @@ final class Twin {
     /** All that there is in an object but its status, as a text; the object is used up by that. */
     static String everything(RopeEnds x) {
         StringBuilder seen = new StringBuilder(Due.all(x));
+        seen.append("\ntape: ").append(x.store()).append(' ').append(Due.all(x));
+        seen.append("\nimage: ").append(x.undo()).append(' ').append(Due.all(x));
+        // The sheets come last: where they end is found out by a finding.
         for (int s = 0; s < 4; s++) {
             seen.append("\nsheet ").append(s).append(": ").append(numbers(x, s));
         }
-        seen.append("\ntape: ").append(x.store()).append(' ').append(Due.all(x));
-        seen.append("\nimage: ").append(x.undo()).append(' ').append(Due.all(x));
         return seen.toString();
     }
 
